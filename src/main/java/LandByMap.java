@@ -52,6 +52,10 @@ public final class LandByMap {
     private static final int BYTES = 0;
     private static final int SHORTS = 1;
     private static final int INTS = 2;
+    private static final int LEAST_BYTE = -128;
+    private static final int LEAST_SHORT = -32768;
+    private static final int LEAST_INT = -2147483648;
+    private static final int ALL_BUT_THE_SIGN = 0x7fffffff;
 
     private final Land here = new Land();
     private final Land mind = new Land();
@@ -348,7 +352,7 @@ public final class LandByMap {
         int changed = 0;
         for (int passed = 0; passed < n; passed++) {
             seed = seed * 1103515245 + 12345;
-            int who = ((seed & Integer.MAX_VALUE) >> 16) % drawers;
+            int who = ((seed & ALL_BUT_THE_SIGN) >> 16) % drawers;
             if (passYear(mind, who) != 0) {
                 changed++;
             }
@@ -1089,9 +1093,9 @@ public final class LandByMap {
 
         int leastNumber() {
             if (sort == BYTES) {
-                return Byte.MIN_VALUE;
+                return LEAST_BYTE;
             }
-            return sort == SHORTS ? Short.MIN_VALUE : Integer.MIN_VALUE;
+            return sort == SHORTS ? LEAST_SHORT : LEAST_INT;
         }
 
         boolean isMapOf(int cells) {
