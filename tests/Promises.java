@@ -772,6 +772,11 @@ public final class Promises {
     // By lessening: the year that has gone by counts.
     x.year();
     due("behind the second's year", x.still(), 1);
+    // 29 steps by the second of two: 58 years and two quiet ones are just 60; 30 steps are too many.
+    fresh("s44;d00;d10;w112 999;w113 999;w114 999;w115 999;g15 1;g0 9;");
+    due("60 in all", x.still(), 58);
+    read("g15 0;");
+    due("more than 60", x.still(), -4);
     of(19);
     fresh("");
     due("no drawers", x.rings(), -3);

@@ -771,7 +771,7 @@ public final class LandByMap {
         }
 
         boolean addDrawer(int kind, int figure) {
-            if (kind > KIND_COPY || drawerCount >= MOST_DRAWERS) {
+            if (kind < KIND_DRAWER || kind > KIND_COPY || drawerCount >= MOST_DRAWERS) {
                 return false;
             }
             drawers[drawerCount] = new Drawer(drawerCount, kind, figure);
@@ -1132,20 +1132,17 @@ public final class LandByMap {
         void open(int[] elements, int n) {
             bytes = elements;
             size = Math.min(n, elements.length);
-            at = 0;
         }
 
         int faultOfForm() {
             at = 0;
-            for (int n = 0; n <= size; n++) {
+            // One statement at least, so that an empty text ends too early.
+            for (int n = 0; n == 0 || (n < size && at < size); n++) {
                 if (!readStatement()) {
                     return FAULT_OF_FORM - at;
                 }
-                if (at == size) {
-                    return 0;
-                }
             }
-            return FAULT_OF_FORM - size;
+            return 0;
         }
 
         /** How many statements came, or the fault of the first that cannot be done. */
@@ -1633,8 +1630,7 @@ public final class LandByMap {
             }
             boolean nearer = true;
             for (int turn = 0; nearer && turn < MOST_TURNS; turn++) {
-                nearer = spreadForth(land);
-                nearer = spreadBack(land) || nearer;
+                nearer = spreadForth(land) && spreadBack(land);
             }
         }
 
