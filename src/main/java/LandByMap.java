@@ -1475,9 +1475,14 @@ public final class LandByMap {
             boolean paid = 2 * land.near(from, to) <= land.hours;
             land.shift(from, to);
             boolean dug = paid && (!wasLost || land.isLost());
-            int worth = dug ? worthByTable(land) : 0;
-            land.shift(to, from);
-            return dug ? worth : worthByTable(land);
+            if (!dug) {
+                land.shift(to, from);
+            }
+            int worth = worthByTable(land);
+            if (dug) {
+                land.shift(to, from);
+            }
+            return worth;
         }
 
         private int worthByTable(Land land) {
