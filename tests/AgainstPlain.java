@@ -9,8 +9,12 @@ import java.util.regex.Pattern;
  * runs of calls (always the same ones) that the class must answer alike.
  */
 public final class AgainstPlain {
-  private static final int RUNS = 1200;
+  private static final int RUNS = 2500;
+  /** What an object answers behind so many calls is free, and one turn makes no more than those. */
   private static final int CALLS = 512;
+  private static final int CALLS_OF_A_TURN = 60;
+  /** A ROW's elements behind so many stay 0, so that long ROWS don't take all calls. */
+  private static final int MOST_PUT = 20;
 
   public static void main(String[] args) {
     int wrong = 0;
@@ -30,7 +34,7 @@ public final class AgainstPlain {
     List<String> told = new ArrayList<>();
     Calls calls = new Calls(random, real, plain, told);
     calls.begin();
-    while (calls.made < CALLS) {
+    while (calls.made <= CALLS - CALLS_OF_A_TURN) {
       if (!calls.next()) {
         System.out.println("run " + run + ":");
         for (String line : told) {
@@ -64,6 +68,10 @@ public final class AgainstPlain {
       if (got != due) {
         alike = false;
       }
+    }
+
+    private void put(int d, int i, int v) {
+      same("put(" + d + ", " + i + ", " + v + ")", real.put(d, i, v), plain.put(d, i, v));
     }
 
     private int up(int n) {
@@ -124,10 +132,8 @@ public final class AgainstPlain {
       int d = up(8);
       int n = Math.min(100, text.length());
       same("row(" + d + ", 0, " + n + ")", real.row(d, 0, n), plain.row(d, 0, n));
-      for (int i = 0; i < n && i < 100; i++) {
-        // Not counted: texts are long, and the calls of a run are not to be all of them put.
-        real.put(d, i, text.charAt(i));
-        plain.put(d, i, text.charAt(i));
+      for (int i = 0; i < n; i++) {
+        put(d, i, text.charAt(i));
       }
       same("land(" + d + ") of \"" + text + "\"", real.land(d), plain.land(d));
     }
@@ -190,12 +196,12 @@ public final class AgainstPlain {
       int sort = up(20) == 0 ? about(3) : 0;
       same("row(" + d + ", " + sort + ", " + n + ")", real.row(d, sort, n), plain.row(d, sort, n));
       boolean even = up(2) == 0;
-      for (int i = 0; i < n && i < 100; i++) {
+      for (int i = 0; i < n && i < MOST_PUT; i++) {
         int v = up(60) == 0 ? about(11) : up(6) == 0 ? 99 : up(10);
         if (even && i < plain.cells()) {
           v = up(3) == 0 ? 99 : plain.now.heights[i];
         }
-        same("put(" + d + ", " + i + ", " + v + ")", real.put(d, i, v), plain.put(d, i, v));
+        put(d, i, v);
       }
       return d;
     }
@@ -209,7 +215,7 @@ public final class AgainstPlain {
         int v = up(20) == 0 ? up(10) : plain.now.heights[i];
         v = up(6) == 0 ? new int[] {-128, -32768, Integer.MIN_VALUE}[sort] : v;
         v = up(30) == 0 ? new int[] {-128, -32768, Integer.MIN_VALUE}[up(3)] : v;
-        same("put(" + d + ", " + i + ", " + v + ")", real.put(d, i, v), plain.put(d, i, v));
+        put(d, i, v);
       }
       same("judge(" + d + ")", real.judge(d), plain.judge(d));
     }
@@ -218,9 +224,9 @@ public final class AgainstPlain {
       int d = up(8);
       int n = up(14);
       same("row(" + d + ", 0, " + n + ")", real.row(d, 0, n), plain.row(d, 0, n));
-      for (int i = 0; i < n && i < 100; i++) {
+      for (int i = 0; i < n && i < MOST_PUT; i++) {
         int v = up(60) == 0 ? about(16) : up(plain.cells());
-        same("put(" + d + ", " + i + ", " + v + ")", real.put(d, i, v), plain.put(d, i, v));
+        put(d, i, v);
       }
       same("works(" + d + ")", real.works(d), plain.works(d));
     }
@@ -379,7 +385,7 @@ public final class AgainstPlain {
         case 38: {
           int i = about(50);
           int v = up(2) == 0 ? random.nextInt() : about(300);
-          same("put(" + d + ", " + i + ", " + v + ")", real.put(d, i, v), plain.put(d, i, v));
+          put(d, i, v);
           break;
         }
         case 39: anElement(d, about(50)); break;

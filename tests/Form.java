@@ -24,6 +24,13 @@ public final class Form {
     "int row(int, int, int)", "int put(int, int, int)", "long element(int, int)", "int copy(int, int, int, int, int)",
     "int price(int)", "int toss(int)",
   };
+  private static final List<String> IMPORTS = List.of(
+    "java.util.Arrays", "java.util.ArrayList", "java.util.List", "java.util.Iterator", "java.util.NoSuchElementException");
+  private static final List<String> EXCEPTIONS = List.of(
+    "IllegalStateException", "IllegalArgumentException", "IndexOutOfBoundsException", "ArithmeticException",
+    "UnsupportedOperationException", "NoSuchElementException", "RuntimeException");
+  private static final List<String> OF_THE_MACHINE = List.of(
+    "IndexOutOfBoundsException", "ArithmeticException", "RuntimeException");
   private static int wrong = 0;
 
   public static void main(String[] args) throws IOException {
@@ -96,12 +103,15 @@ public final class Form {
   private static void classForm(Class<?> each, Set<String> names) {
     int fields = 0;
     for (Field f : each.getDeclaredFields()) {
+      if (f.isSynthetic()) {
+        continue;
+      }
       if (!Modifier.isStatic(f.getModifiers())) {
         fields++;
         continue;
       }
       check(Modifier.isFinal(f.getModifiers()), "rule 5: " + f);
-      check(f.getType().isPrimitive() || f.getType() == String.class, "rule 5: " + f);
+      check(f.isEnumConstant() || isConstant(f.getType(), each), "rule 5: " + f);
     }
     check(fields <= 20, "rule 11: " + each + " has " + fields + " fields");
     for (Method m : each.getDeclaredMethods()) {
@@ -111,54 +121,76 @@ public final class Form {
     }
   }
 
+  /** Of rule 5: numbers, Strings, rows of whole numbers, and what an enum's values() are kept in. */
+  private static boolean isConstant(Class<?> type, Class<?> within) {
+    List<Class<?>> rows = List.of(int[].class, long[].class, char[].class, byte[].class);
+    return type.isPrimitive() || type == String.class || rows.contains(type) || (within.isEnum() && type.getComponentType() == within);
+  }
+
   private static String withoutTextsAndComments(String source) {
     String code = source.replaceAll("(?s)/\\*.*?\\*/", "");
     code = code.replaceAll("\"(\\\\.|[^\"\\\\])*\"", "\"\"").replaceAll("'(\\\\.|[^'\\\\])'", "' '");
     return code.replaceAll("//[^\n]*", "");
   }
 
+  private static boolean found(String pattern, String code) {
+    return Pattern.compile(pattern).matcher(code).find();
+  }
+
   private static void words(String code) {
     String[] forbidden = {
-      "finally", "synchronized", "assert", "protected", "package", "instanceof", "record", "native", "volatile", "transient",
-      "var", "Object", "Integer", "Byte", "Short", "Character", "System\\.(?!arraycopy)", "Thread", "Random", "Double", "Float", "Long", "File", "getMessage", "hashCode",
-      "toString", "equals", "NullPointerException", "ArrayIndexOutOfBoundsException", "IndexOutOfBoundsException",
-      "ArithmeticException", "ClassCastException", "NegativeArraySizeException", "ArrayStoreException", "RuntimeException",
-      "Exception", "Throwable", "Error", "[A-Za-z]*Exact", "static\\s*\\{", "->", "::", "\"\"\\s*\\+", "\\+\\s*\"\"",
+      "finally", "synchronized", "assert", "protected", "package", "native", "volatile", "transient",
+      "var", "Object", "Byte", "Short", "Character", "Boolean", "Double", "Float",
+      "Thread", "Random", "File", "getMessage", "hashCode", "[A-Za-z]*Exact",
     };
     for (String word : forbidden) {
-      String bounded = Character.isLetter(word.charAt(0)) ? "\\b" + word + (Character.isLetter(word.charAt(word.length() - 1)) ? "\\b" : "") : word;
-      Matcher m = Pattern.compile(bounded).matcher(code);
-      if (m.find()) {
-        check(false, "the source says " + m.group());
-      }
+      check(!found("\\b" + word + "\\b", code), "the source says what it may not: " + word);
+    }
+    String[] shapes = {"\\bSystem\\.(?!arraycopy)", "\\bstatic\\s*\\{", "->", "::", "\"\"\\s*\\+", "\\+\\s*\"\""};
+    for (String shape : shapes) {
+      check(!found(shape, code), "the source has what it may not: " + shape);
     }
     Matcher imports = Pattern.compile("import ([^;]*);").matcher(code);
     while (imports.find()) {
-      check(imports.group(1).equals("java.util.Arrays"), "rule 4: " + imports.group());
+      check(IMPORTS.contains(imports.group(1)), "rule 4: " + imports.group());
     }
-    Matcher catches = Pattern.compile("catch \\((\\w+) ").matcher(code);
+    Matcher thrown = Pattern.compile("\\b[A-Za-z]*(Exception|Error|Throwable)\\b").matcher(code);
+    while (thrown.find()) {
+      check(EXCEPTIONS.contains(thrown.group()), "rule 6: " + thrown.group());
+    }
+    Matcher catches = Pattern.compile("catch \\(([^)]*) ").matcher(code);
     while (catches.find()) {
-      check(List.of("IllegalStateException", "IllegalArgumentException", "UnsupportedOperationException").contains(catches.group(1)), catches.group());
+      check(!OF_THE_MACHINE.contains(catches.group(1)), "what the machine throws is caught: " + catches.group(1));
     }
   }
 
-  /** Methods stand at one depth of blanks or two, and end at the same. */
+  /** A method is what stands in braces behind a bracket that is not that of a loop, a choice or a catch. */
   private static void lengths(String code) {
-    String[] lines = code.split("\n");
-    Pattern head = Pattern.compile("^( {4}| {8})[a-zA-Z][^;=]*\\)[^;=]*\\{$");
-    int methods = 0;
-    for (int i = 0; i < lines.length; i++) {
-      Matcher m = head.matcher(lines[i]);
-      if (!m.matches() || lines[i].trim().matches("(if|for|while|switch|do|else|try)\\b.*")) {
-        continue;
+    List<Integer> starts = new ArrayList<>();
+    List<String> heads = new ArrayList<>();
+    int line = 1;
+    int brackets = 0;
+    StringBuilder head = new StringBuilder();
+    for (char sign : code.toCharArray()) {
+      line += sign == '\n' ? 1 : 0;
+      brackets += sign == '(' ? 1 : sign == ')' ? -1 : 0;
+      if (sign == '{') {
+        starts.add(line);
+        heads.add(head.toString().trim());
+      } else if (sign == '}' && !heads.isEmpty()) {
+        String ended = heads.remove(heads.size() - 1);
+        int many = line - starts.remove(starts.size() - 1) + 1;
+        check(!isMethod(ended) || many <= 60, "rule 11: so many lines (" + many + "): " + ended);
       }
-      methods++;
-      int end = i;
-      while (end < lines.length && !lines[end].equals(m.group(1) + "}")) {
-        end++;
+      if (brackets == 0 && (sign == '{' || sign == '}' || sign == ';')) {
+        head.setLength(0);
+      } else {
+        head.append(sign);
       }
-      check(end - i + 1 <= 60, "rule 11: so many lines (" + (end - i + 1) + "): " + lines[i].trim());
     }
-    check(methods > 60, "only " + methods + " methods were found");
+  }
+
+  private static boolean isMethod(String head) {
+    return head.matches("(?s).*\\)(\\s*throws [\\w, ]+)?") && !head.matches("(?s)(\\w+:\\s*)?(else |\\}|)\\s*(if|for|while|switch|catch|try|do|else)\\b.*");
   }
 }

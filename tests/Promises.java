@@ -1,9 +1,5 @@
 /** The promises of the document one by one: ordinary calls, the edges that it names, and wrong calls. */
-public final class Promises {
-  private static int wrong = 0;
-  private static int promise = 0;
-  private static LandByMap x;
-
+public final class Promises extends CallTest {
   public static void main(String[] args) {
     newObject();
     lands();
@@ -30,80 +26,7 @@ public final class Promises {
     counts();
     shelves();
     pricesAndTosses();
-    System.out.println(wrong == 0 ? "all promises are kept" : wrong + " answers are not as due");
-    if (wrong != 0) {
-      System.exit(1);
-    }
-  }
-
-  private static void of(int number) {
-    promise = number;
-  }
-
-  private static void due(String call, long got, long want) {
-    if (got != want) {
-      wrong++;
-      System.out.println("promise " + promise + ": " + call + " answered " + got + ", due is " + want);
-    }
-  }
-
-  private static void fresh(String text) {
-    x = new LandByMap();
-    if (!text.isEmpty()) {
-      read(text);
-    }
-  }
-
-  /** Puts a text in SHELF 0 and reads it. */
-  private static int land(String text) {
-    x.row(0, 0, text.length());
-    for (int i = 0; i < text.length(); i++) {
-      x.put(0, i, text.charAt(i));
-    }
-    return x.land(0);
-  }
-
-  private static void read(String text) {
-    int answer = land(text);
-    if (answer < 1) {
-      wrong++;
-      System.out.println("promise " + promise + ": the text " + text + " answered " + answer);
-    }
-  }
-
-  private static void row(int d, int sort, int... numbers) {
-    x.row(d, sort, numbers.length);
-    for (int i = 0; i < numbers.length; i++) {
-      x.put(d, i, numbers[i]);
-    }
-  }
-
-  private static void map(int... heights) {
-    row(1, 0, heights);
-    x.map(1);
-  }
-
-  private static void heights(String when, int... due) {
-    for (int c = 0; c < due.length; c++) {
-      due(when + " cell(" + c + ", 0)", x.cell(c, 0), due[c]);
-    }
-  }
-
-  private static void drawn(int drawer, int... due) {
-    for (int c = 0; c < due.length; c++) {
-      due("draws(" + drawer + ", " + c + ")", x.draws(drawer, c), due[c]);
-    }
-  }
-
-  /** 0 and the element, 1 IllegalArgumentException, 2 IllegalStateException. */
-  private static long element(int d, int i) {
-    try {
-      return x.element(d, i) * 10;
-    } catch (IllegalArgumentException refused) {
-      return 1;
-    } catch (IllegalStateException refused) {
-      return 2;
-    }
+    end("all promises are kept");
   }
 
   private static void newObject() {
@@ -153,7 +76,7 @@ public final class Promises {
     due("worth", x.drawer(0, 3), 99);
     x.keep(2, 1, 0);
     due("a drawer", x.land(2), -12);
-    due("the text stays", element(0, 0), 'g' * 10);
+    due("the text stays", element(0, 0), 'g');
     // Anew: heights, houses, spring, map; not hours, law.
     fresh("g0 9;b1;q2;t7;l1;");
     x.says(3, 4);
@@ -513,12 +436,6 @@ public final class Promises {
     due("no shelf", x.works(8), -1);
   }
 
-  private static void dug(int left, int steps, int hours) {
-    due("dig(0)", x.dig(0), left);
-    due("dig(1)", x.dig(1), steps);
-    due("dig(2)", x.dig(2), hours);
-  }
-
   private static void digByLaws() {
     of(14);
     fresh("");
@@ -850,7 +767,7 @@ public final class Promises {
     due("no height", x.seam(5, 1, 1, true), -13);
     due("no height", x.seam(1, 5, 1, true), -13);
     due("as it was", x.cell(0, 2), 1);
-    due("the rows stay", element(1, 1), 50);
+    due("the rows stay", element(1, 1), 5);
   }
 
   private static void blots() {
@@ -1038,7 +955,7 @@ public final class Promises {
     due("anew", x.row(7, 2, 100), 0);
     due("anew", element(7, 99), 0);
     due("empty", x.row(7, 0, 0), 0);
-    due("no place", element(7, 0), 2);
+    due("no place", element(7, 0), NO_ELEMENT);
     of(31);
     row(1, 0, 127, 128, 255, 256, -129);
     row(2, 1, 32767, 32768, 65535, 65536, -32769);
@@ -1046,7 +963,7 @@ public final class Promises {
     long[][] due = {{127, -128, -1, 0, 127}, {32767, -32768, -1, 0, 32767}, {Integer.MAX_VALUE, Integer.MIN_VALUE}};
     for (int d = 0; d < 3; d++) {
       for (int i = 0; i < due[d].length; i++) {
-        due("element(" + (d + 1) + ", " + i + ")", element(d + 1, i), due[d][i] * 10);
+        due("element(" + (d + 1) + ", " + i + ")", element(d + 1, i), due[d][i]);
       }
     }
     due("no place", x.put(1, 5, 0), -13);
@@ -1057,13 +974,13 @@ public final class Promises {
     due("a drawer", x.put(6, 0, 0), -12);
     due("no shelf", x.put(8, 0, 0), -1);
     of(32);
-    due("no place", element(1, 5), 2);
-    due("no place", element(1, -1), 2);
-    due("a drawer", element(6, 0), 2);
+    due("no place", element(1, 5), NO_ELEMENT);
+    due("no place", element(1, -1), NO_ELEMENT);
+    due("a drawer", element(6, 0), NO_ELEMENT);
     x.keep(6, 0, 0);
-    due("nothing", element(6, 0), 2);
-    due("no shelf", element(8, 0), 1);
-    due("no shelf", element(-1, 0), 1);
+    due("nothing", element(6, 0), NO_ELEMENT);
+    due("no shelf", element(8, 0), NO_SHELF);
+    due("no shelf", element(-1, 0), NO_SHELF);
     copies();
   }
 
@@ -1073,16 +990,16 @@ public final class Promises {
     row(1, 0, 1, 2, 3, 4, 5);
     row(2, 0, 9, 9, 9);
     due("copy", x.copy(1, 3, 2, 1, 2), 2);
-    due("copied", element(2, 0), 90);
-    due("copied", element(2, 1), 40);
-    due("copied", element(2, 2), 50);
+    due("copied", element(2, 0), 9);
+    due("copied", element(2, 1), 4);
+    due("copied", element(2, 2), 5);
     due("over itself", x.copy(1, 0, 1, 1, 4), 4);
     for (int i = 0; i < 5; i++) {
-      due("over itself", element(1, i), i == 0 ? 10 : i * 10);
+      due("over itself", element(1, i), i == 0 ? 1 : i);
     }
     due("back over itself", x.copy(1, 2, 1, 0, 3), 3);
-    due("over itself", element(1, 0), 20);
-    due("over itself", element(1, 2), 40);
+    due("over itself", element(1, 0), 2);
+    due("over itself", element(1, 2), 4);
     due("none", x.copy(1, 5, 2, 3, 0), 0);
     due("none, but no place", x.copy(1, 6, 2, 0, 0), -13);
     due("below 0", x.copy(1, 0, 2, 0, -1), -13);
