@@ -341,7 +341,10 @@ public final class Edges extends CallTest {
     due("at least one STATEMENT", land(""), -1000);
     due("100 bytes", land("l0;".repeat(32) + "t12;"), 33);
     due("HOURS", x.state(2), 12);
-    due("100 bytes, it ends too early", land("l0;".repeat(33) + "l"), -1100);
+    due("100 bytes, a digit is missing", land("l0;".repeat(33) + "l"), -1100);
+    due("100 bytes, the last ; is missing", land("l0;".repeat(32) + "t123"), -1100);
+    fresh("");
+    due("100 bytes, a blank is missing", land("l0;".repeat(32) + "g123"), -1100);
     due("the last byte", land("l0;".repeat(33) + ";"), -1099);
     due("the last STATEMENT", land("l0;".repeat(32) + "l3;"), -2096);
     fresh("");
@@ -639,8 +642,19 @@ public final class Edges extends CallTest {
     x.says(0, 0);
     x.says(3, 9);
     due("up the hill", x.least(), 4);
-    // Only half of the CELLS too high, half too low: 16 CELLS, each step one off.
+    // All 16 CELLS too high, or too low; then half of them the one, half the other.
     fresh("s44;");
+    map(0, 0, 0, 0, 0, 0, 0, 0, 0, 0, 0, 0, 0, 0, 0, 0);
+    due("all too high", x.least(), -4);
+    dug(32, 0, 60);
+    map(9, 9, 9, 9, 9, 9, 9, 9, 9, 9, 9, 9, 9, 9, 9, 9);
+    due("all too low", x.least(), -4);
+    x.set(1, 1);
+    dug(112, 0, 60);
+    x.says(0, 0);
+    due("one too high", x.least(), -4);
+    // Two steps from 0: to 1 and on to 1 again.
+    dug(105 + 2 - 4, 2, 56);
     map(1, 3, 1, 3, 3, 1, 3, 1, 1, 3, 1, 3, 3, 1, 3, 1);
     due("each to one beside it", x.least(), 16);
     map(1, 1, 3, 3, 1, 1, 3, 3, 1, 1, 3, 3, 1, 1, 3, 3);
@@ -891,6 +905,11 @@ public final class Edges extends CallTest {
     fresh("q4;g4 2;l2;");
     due("not LOST", x.water(2), 0);
     map(99, 99, 99, 99, 4, 99, 99, 1, 1);
+    dug(0, 2, 60 - 2 - 4);
+    // 1 to 0 makes it LOST, 4 to 8 keeps it from that again: it was not LOST at first.
+    fresh("q4;l2;");
+    due("not LOST", x.water(2), 0);
+    map(3, 1, 99, 99, 1, 99, 99, 99, 3);
     dug(0, 2, 60 - 2 - 4);
   }
 
@@ -1215,6 +1234,14 @@ public final class Edges extends CallTest {
     // Six, of whom two pull: behind 60 YEARS the first comes, and the last undoes it.
     fresh("s22;d10;d00;d00;d00;d00;d10;w00 350;w50 250;");
     due("6", x.rings(), 6);
+    // The last step of ten falls on the YEAR 60, that of eleven five YEARS later on the YEAR 61.
+    steps(6, 10);
+    due("the YEAR 60 is behind it", x.rings(), 1);
+    steps(6, 11);
+    for (int y = 0; y < 5; y++) {
+      due("no step yet", x.year(), 0);
+    }
+    due("the YEAR 61 changes it for ever", x.rings(), -4);
     // Found by trying: the HEIGHTS come again behind 30 and behind 31 YEARS.
     fresh("s43;t9;g0 6;g4 8;g10 4;d30;d10;d40;w011 269;w01 692;w011 599;w111 679;w110 964;w20 160;w211 191;");
     due("30", x.rings(), 30);
